@@ -470,11 +470,11 @@ public final class TreePlaces {
         }
 
         int at(int index) {
-            return holds(index) ? cells[index] : NONE;
+            return index >= 0 && index < size && index < cells.length ? cells[index] : NONE;
         }
 
         void put(int index, int value) {
-            if (holds(index)) {
+            if (index >= 0 && index < size && index < cells.length) {
                 cells[index] = value;
             }
         }
@@ -524,14 +524,10 @@ public final class TreePlaces {
         }
 
         void takeFrom(Row other) {
-            clear();
-            for (int i = 0; i < other.size; i++) {
-                add(other.at(i));
+            size = Math.min(other.size, Math.min(other.cells.length, cells.length));
+            for (int i = 0; i < size; i++) {
+                cells[i] = other.cells[i];
             }
-        }
-
-        private boolean holds(int index) {
-            return index >= 0 && index < size && index < cells.length;
         }
     }
 
@@ -562,12 +558,12 @@ public final class TreePlaces {
 
         /** The number behind the last node of the part. */
         int endOf(int number) {
-            for (int i = number + 1; i < size(); i++) {
-                if (depthOf(i) <= depthOf(number)) {
+            for (int i = number + 1; i < depths.size(); i++) {
+                if (depths.at(i) <= depths.at(number)) {
                     return i;
                 }
             }
-            return size();
+            return depths.size();
         }
 
         /** The node of that depth that is above the node or is the node. */
@@ -634,11 +630,21 @@ public final class TreePlaces {
 
         /** The child beside it of the node above: the next one for 1, the one ahead for 0. */
         int neighbour(int number, int right) {
-            int turn = turnOf(number);
-            if (turn == NONE) {
-                return NONE;
+            return right == 1 ? next(number) : ahead(number);
+        }
+
+        private int next(int number) {
+            int end = endOf(number);
+            return depthOf(end) == depthOf(number) ? end : NONE;
+        }
+
+        private int ahead(int number) {
+            for (int i = number - 1; i >= 0 && depthOf(i) >= depthOf(number); i--) {
+                if (depthOf(i) == depthOf(number)) {
+                    return i;
+                }
             }
-            return childAt(above(number), right == 1 ? turn + 1 : turn - 1);
+            return NONE;
         }
 
         int heightOf(int number) {
@@ -799,7 +805,8 @@ public final class TreePlaces {
         }
 
         void putTreeIn(Tree other, int number, int depth) {
-            for (int i = 0; i < other.size(); i++) {
+            int nodes = other.size();
+            for (int i = 0; i < nodes; i++) {
                 putNodeIn(number + i, other.letterOf(i), depth + other.depthOf(i));
             }
         }
@@ -935,6 +942,7 @@ public final class TreePlaces {
         /** For each "(" that is open, how many children it has so far. */
         private final Row open = new Row(DEPTH_LIMIT);
         private boolean letterIsDue;
+        /** Whether a letter is the last character, where none is due. */
         private boolean mayOpen;
         private int faultPlace;
         private int reason;
@@ -943,7 +951,6 @@ public final class TreePlaces {
             tree.clear();
             open.clear();
             letterIsDue = true;
-            mayOpen = false;
             reason = NO_FAULT;
             for (int i = 0; i < text.size() && reason == NO_FAULT; i++) {
                 faultPlace = i;
@@ -998,7 +1005,6 @@ public final class TreePlaces {
             }
             open.add(0);
             letterIsDue = true;
-            mayOpen = false;
             return NO_FAULT;
         }
 
@@ -1007,7 +1013,6 @@ public final class TreePlaces {
                 return TOO_MANY_CHILDREN;
             }
             letterIsDue = true;
-            mayOpen = false;
             return NO_FAULT;
         }
 

@@ -127,6 +127,7 @@ public final class AnswersTest {
         x = Trees.of("a(b(c(d),e),f(z))");
         due.is("all letters unlike", x.count(9), 7);
         due.is("leaves", x.count(3), 3);
+        due.is("letters without the first", Trees.of("z(y,z(y))").count(9), 2);
         due.is("no clip", x.count(6), 0);
     }
 

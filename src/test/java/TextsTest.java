@@ -176,6 +176,17 @@ public final class TextsTest {
         Trees.type(x, Trees.full());
         due.is("read() of 40 nodes", x.read(), 40);
         due.is("tree of 40 nodes", Trees.told(x), Trees.full());
+        // Nothing of the forty is left when a small tree is read.
+        Trees.type(x, "a(b)");
+        due.is("read() of 2 nodes", x.read(), 2);
+        x.down(0);
+        x.mark(0);
+        x.beside(0, 2);
+        due.is("place then", x.count(1), 2);
+        due.is("mark then", x.marked(0), 2);
+        due.is("tree then", Trees.told(x), "a(c,b)");
+        due.is("back then", x.back(), 0);
+
         // The fewest leaves make the longest text: five chains of 7 below the top, and one of 4.
         String chains = (Trees.chain("bcdefgh") + ",").repeat(5) + Trees.chain("wxyz");
         Trees.type(x, "a(" + chains + ")");
