@@ -360,7 +360,7 @@ final class Model {
         return before == null ? 100 : number(before);
     }
 
-    private long nodeOf(int number, int what) {
+    long nodeOf(int number, int what) {
         Node node = node(number);
         if (node == null || what < 0 || what > 7) {
             return -1;
@@ -393,7 +393,7 @@ final class Model {
         return what == 0 ? number(node) : what == 1 ? node.letter : depth == 0 ? 0 : node.turn();
     }
 
-    private long count(int what) {
+    long count(int what) {
         List<Node> all = now.top.part();
         switch (what) {
             case 0: return all.size();

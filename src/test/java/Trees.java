@@ -13,6 +13,32 @@ final class Trees {
         return x;
     }
 
+    /** A tree with the place at a node, to which it is walked down from the top. */
+    static TreePlaces at(String text, int number) {
+        TreePlaces x = of(text);
+        walkDown(x, number);
+        return x;
+    }
+
+    static void walkDown(TreePlaces x, int number) {
+        StringBuilder children = new StringBuilder();
+        for (int on = number; on > 0; on = x.nodeOf(on, 2)) {
+            children.append(x.nodeOf(on, 5));
+        }
+        for (char child : children.reverse().toString().toCharArray()) {
+            x.down(child - '0');
+        }
+    }
+
+    /** The same with a mark and a clip of the place, and a text: much that an error could spoil. */
+    static TreePlaces busy(String text, int number) {
+        TreePlaces x = at(text, number);
+        x.mark(2);
+        x.copy();
+        type(x, "x(y,z)");
+        return x;
+    }
+
     static void type(TreePlaces x, String text) {
         x.clearText();
         for (char character : text.toCharArray()) {
@@ -23,7 +49,8 @@ final class Trees {
     static String told(TreePlaces x) {
         StringBuilder told = new StringBuilder();
         int open = 0;
-        for (int number = 0; number < x.count(0); number++) {
+        int nodes = x.count(0);
+        for (int number = 0; number < nodes; number++) {
             int depth = x.nodeOf(number, 3);
             if (depth > open) {
                 told.append('(');

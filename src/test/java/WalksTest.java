@@ -117,12 +117,12 @@ public final class WalksTest {
         due.is("back() to the first", x.back(), 0);
         due.is("back() once more", x.back(), -2);
         due.is("walks at last", x.count(5), 0);
-        // The same node twice: the place itself is passed over.
+        // The same node twice: each walk is taken back by itself.
         x.down(0);
         x.up();
         x.down(0);
         x.back();
-        due.is("back() over no walk", x.back(), 1);
+        due.is("back() to and fro", x.back(), 1);
         due.is("back() to the top", x.back(), 0);
     }
 
